@@ -399,49 +399,16 @@ public final class ActTest {
     }
 
     private static void undoGivesAllBack() {
-        SpinWheels x = Due.craft("K20212w+9+9+9w-9+3+1f+1+2+3");
-        x.tick(9);
-        x.kill(1);
-        x.tick(9);
-        x.kill(0);
-        x.tick(2);
-        int[] before = seen(x);
-        Due.isTrue("the run of the test is dull", x.count(6) > 0 && x.count(8) > 0);
-        x.mend(0);
-        x.free();
-        x.set(0, 55);
-        x.set(1, 9);
-        x.set(2, 9);
-        x.set(3, 9);
-        x.want(1, 8, 8, 8);
-        x.kill(2);
-        x.tick(30);
+        SpinWheels x = Due.worn();
+        int[] before = Due.seen(x);
+        Due.wearOut(x);
         Due.same("count(14)", x.count(14), 14);
         for (int i = 0; i < 9; i++) {
             x.undo();
         }
-        int[] after = seen(x);
+        int[] after = Due.seen(x);
         for (int i = 0; i < before.length; i++) {
             Due.same("undone, number " + i, after[i], before[i]);
         }
-    }
-
-    private static int[] seen(SpinWheels x) {
-        int[] all = new int[16 + 8 + 7 + 6];
-        int n = 0;
-        for (int i = 0; i < 16; i++) {
-            all[n++] = x.count(i);
-        }
-        for (int i = 0; i < 4; i++) {
-            all[n++] = x.wheel(i, 0);
-            all[n++] = x.wheel(i, 2);
-        }
-        for (int i = 0; i < 7; i++) {
-            all[n++] = x.momentum(i);
-        }
-        for (int i = 0; i < 6; i++) {
-            all[n++] = x.told(true, i / 3, i % 3);
-        }
-        return all;
     }
 }

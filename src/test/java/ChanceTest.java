@@ -299,7 +299,13 @@ public final class ChanceTest {
         }
         Due.same("seven draws in safe mode", x.seed(0L), seed);
         x.undo();
-        Due.same("the disturbance is gone", x.plan(0), -2);
+        for (long start = 0L; start < 40L; start++) {
+            x.seed(start);
+            x.drawn(1);
+            Due.sameFloat("the disturbance is gone", x.plan(2), 4.75f);
+            Due.sameFloat("the disturbance is gone", x.next(1), -4.25f);
+            Due.sameFloat("the disturbance is gone", x.next(2), -4.25f);
+        }
         // each tick alone can be had by commands: the disturbed ones, which stay within 9 here
         x = Due.craft("K12015w+1-2+3f+3-8+1");
         SpinWheels y = Due.craft("K12015w+1-2+3f+3-8+1");
@@ -342,34 +348,21 @@ public final class ChanceTest {
     }
 
     private static void again() {
-        SpinWheels x = Due.craft("K20212w+9+9+9w-9+3+1f+1+2+3");
+        SpinWheels x = Due.worn();
         Due.same("again(-1)", x.again(-1), -1);
         Due.same("again(2)", x.again(2), -1);
         Due.same("again(0) of nothing", x.again(0), -3);
         Due.same("again(1) of nothing", x.again(1), -3);
-        x.tick(9);
-        x.kill(1);
-        x.tick(9);
-        x.kill(0);
-        x.tick(2);
-        int[] before = seen(x);
+        int[] before = Due.seen(x);
         x.keep(1);
         Due.same("the other slot", x.again(0), -3);
         Due.same("an error leaves the acts", x.count(14), 5);
-        x.mend(0);
-        x.free();
-        x.set(0, 55);
-        x.set(1, 9);
-        x.set(2, 9);
-        x.set(3, 9);
-        x.want(1, 8, 8, 8);
-        x.tick(30);
-        x.kill(3);
+        Due.wearOut(x);
         x.see(1, 0, 1, 1);
         x.seed(44L);
         for (int round = 0; round < 2; round++) {
             Due.same("again(1)", x.again(1), 20);
-            int[] after = seen(x);
+            int[] after = Due.seen(x);
             for (int i = 0; i < before.length; i++) {
                 Due.same("restored, number " + i, after[i], before[i]);
             }
@@ -382,25 +375,6 @@ public final class ChanceTest {
         Due.same("the seed stays", x.seed(0L), 44);
         Due.same("undo() of an act after again()", x.undo(), 0);
         Due.same("its clock", x.count(5), 20);
-    }
-
-    private static int[] seen(SpinWheels x) {
-        int[] all = new int[35];
-        int n = 0;
-        for (int i = 0; i < 14; i++) {
-            all[n++] = x.count(i);
-        }
-        for (int i = 0; i < 4; i++) {
-            all[n++] = x.wheel(i, 0);
-            all[n++] = x.wheel(i, 2);
-        }
-        for (int i = 0; i < 7; i++) {
-            all[n++] = x.momentum(i);
-        }
-        for (int i = 0; i < 6; i++) {
-            all[n++] = x.told(true, i / 3, i % 3);
-        }
-        return all;
     }
 
     private static void count() {

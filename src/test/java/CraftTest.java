@@ -10,6 +10,7 @@ public final class CraftTest {
         fault();
         faultOfTooManyParts();
         craft();
+        craftForgetsCounters();
         craftKeepsAndForgets();
         wheel();
         told();
@@ -149,6 +150,15 @@ public final class CraftTest {
         Due.same("told of the craft before", x.told(true, 0, 0), -1);
     }
 
+    private static void craftForgetsCounters() {
+        SpinWheels x = Due.craft("K10005w+4+0+0w-8+0+0w+9+9+9w+9+9+9w+9+9+9");
+        x.tick(5);
+        Due.same("crossings before", x.count(7), 7);
+        Due.same("missed and the run before", 10 * x.count(6) + x.count(9), 11);
+        x.craft();
+        counts("as at first", x, 41, 5, 0, 0, 0, 0, 0, 0, 0, 0, 10);
+    }
+
     private static void craftKeepsAndForgets() {
         SpinWheels x = Due.craft("K10005w+9+9+9");
         x.tick(7);
@@ -206,6 +216,10 @@ public final class CraftTest {
             Due.same("told(true, 0, " + k + ")", x.told(true, 0, k), wants[0][k]);
             Due.same("told(true, 1, " + k + ")", x.told(true, 1, k), wants[1][k]);
             Due.same("told(false, 0, " + k + ")", x.told(false, 0, k), field[k]);
+        }
+        SpinWheels y = Due.craft("K10001f+1+2+3f+4+5+6f+7+8+9f-1-2-3f-4-5-6f-7-8-9");
+        for (int i = 0; i < 18; i++) {
+            Due.same("told(false, " + i / 3 + ", " + i % 3 + ")", y.told(false, i / 3, i % 3), i < 9 ? i + 1 : 8 - i);
         }
         Due.same("told(true, 2, 0)", x.told(true, 2, 0), -1);
         Due.same("told(false, 1, 0)", x.told(false, 1, 0), -1);

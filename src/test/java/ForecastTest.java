@@ -215,6 +215,14 @@ public final class ForecastTest {
         judge("98 ticks", x, 3, 198070304001L, -9);
         judge("no ticks", x, 1, 1000L, 0);
         judge("one tick", x, 1, 1010L, -9);
+        judge("ten and more misses", manyMisses(), 3, 712071307120L, 1);
+        judge("ten and more misses", manyMisses(), 2, 71207120L, -9);
+        // with wheel 3 dead wheel 0 gains 1 a tick and comes to -1, 0 or 1 in the tick 19, 20 or 21
+        judge("19 ticks", fromBelow(), 2, 11905000L, -9);
+        judge("20 ticks", fromBelow(), 2, 12005001L, -9);
+        judge("21 ticks", fromBelow(), 2, 12105002L, -9);
+        // a statement that fails changes nothing that could be seen; the next one is not looked at
+        judge("a last digit", fromBelow(), 2, 12015001L, 0);
         judge("99 ticks", x, 1, 1990L, -9);
         judge("a last digit", x, 1, 1011L, 0);
         judge("missed is 0", x, 1, 7000L, -9);
@@ -231,6 +239,26 @@ public final class ForecastTest {
         x = Due.craft("K50015w+4+0+0w-4+0+0f+0+0+8");
         judge("the gain", x, 3, 600010205001L, -9);
         judge("another gain", x, 3, 600910205000L, -9);
+    }
+
+    private static SpinWheels manyMisses() {
+        SpinWheels x = Due.craft("K10005w+9+9+9");
+        x.tick(5);
+        for (int i = 0; i < 3; i++) {
+            x.free();
+            x.tick(3);
+        }
+        Due.same("missed", x.count(6), 12);
+        return x;
+    }
+
+    private static SpinWheels fromBelow() {
+        SpinWheels x = Due.craft("K50005w-2+0+0");
+        x.kill(3);
+        x.tick(20);
+        x.want(0, 2, 0, 0);
+        Due.same("wheel(0, 1)", x.wheel(0, 1), -20000);
+        return x;
     }
 
     private static void judgeKillsAndMends() {
@@ -287,6 +315,7 @@ public final class ForecastTest {
         judge("row", x, 1, -1L, -2);
         judge("row", x, 1, 10000L, -2);
         judge("row", x, 1, 9999L, 0);
+        judge("row", x, 1, 0L, 0);
         judge("row", x, 2, 100000000L, -2);
         judge("row", x, 2, 99999999L, 0);
         judge("row", x, 3, 1000000000000L, -2);
