@@ -848,8 +848,8 @@ public final class SpinWheels {
         /** Finds, with bent axes, the step, near, the height and the speeds aimed at; the state stays as it is. */
         private void steer(State state) {
             push(state);
-            int best = 0;
-            weigh(state, 0);
+            int best = STEPS[0];
+            weigh(state, best);
             if (state.deadMask == 0) {
                 int bestNear = near;
                 float bestHeight = height;
