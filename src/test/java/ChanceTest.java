@@ -186,13 +186,21 @@ public final class ChanceTest {
         return 20 - lost;
     }
 
+    private static SpinWheels after(String text, int ticks) {
+        SpinWheels x = Due.craft(text);
+        if (ticks > 0) {
+            x.tick(ticks);
+        }
+        return x;
+    }
+
     private static int gcd(int a, int b) {
         return b == 0 ? a : gcd(b, a % b);
     }
 
     private static void shareFollowsItsWords() {
-        SpinWheels x = Due.craft("K13132w-0-2+4w+3-0-4f+9+4+9");
         for (int round = 0; round < 12; round++) {
+            SpinWheels x = after("K13132w-0-2+4w+3-0-4f+9+4+9", 3 * round);
             int all = kept(x, -1);
             int sum = 0;
             for (int i = 0; i < 4; i++) {
@@ -206,7 +214,6 @@ public final class ChanceTest {
                 sum += 24 / x.share(i, false) * x.share(i, true);
             }
             Due.same("the sum of the shares", sum, 24 * all);
-            x.tick(3);
         }
     }
 
@@ -248,8 +255,8 @@ public final class ChanceTest {
     }
 
     private static void lostFollowsItsWords() {
-        SpinWheels x = Due.craft("K17115w-3-1-1w+3+4-2");
         for (int round = 0; round < 10; round++) {
+            SpinWheels x = after("K17115w-3-1-1w+3+4-2", round);
             for (int t = 0; t <= 10; t++) {
                 int y = 10 - t;
                 int over = kept(x, -1) == 20 ? y * y * y * y : 0;
@@ -259,7 +266,6 @@ public final class ChanceTest {
                 int divisor = gcd(10000, over);
                 lost(x, t, over / divisor, 10000 / divisor);
             }
-            x.tick(1);
         }
     }
 
@@ -307,29 +313,26 @@ public final class ChanceTest {
             Due.sameFloat("the disturbance is gone", x.next(2), -4.25f);
         }
         // each tick alone can be had by commands: the disturbed ones, which stay within 9 here
-        x = Due.craft("K12015w+1-2+3f+3-8+1");
-        SpinWheels y = Due.craft("K12015w+1-2+3f+3-8+1");
         for (long start = -40L; start <= 40L; start++) {
+            x = Due.craft("K12015w+1-2+3f+3-8+1");
             x.seed(start * 0x9E3779B97F4A7C15L);
             int got = x.drawn(20);
-            Due.same("drawn(20) from " + start, got, lostWith(y, start * 0x9E3779B97F4A7C15L));
+            Due.same("drawn(20) from " + start, got,
+                lostWith(Due.craft("K12015w+1-2+3f+3-8+1"), start * 0x9E3779B97F4A7C15L));
+            Due.same("the command is as before", x.told(true, 0, 0), 1);
+            Due.same("plan(0) is as before", x.plan(0), Due.craft("K12015w+1-2+3f+3-8+1").plan(0));
         }
-        Due.same("the command is as before", x.told(true, 0, 0), 1);
-        Due.same("plan(0) is as before", x.plan(0), Due.craft("K12015w+1-2+3f+3-8+1").plan(0));
     }
 
     private static int lostWith(SpinWheels y, long start) {
         long seed = start;
-        y.keep(0);
         for (int i = 0; i < 20; i++) {
             seed = seed * 6364136223846793005L + 1442695040888963407L;
             int v = (int) (seed >>> 33);
             y.want(0, 1 + v % 7 - 3, -2 + v / 8 % 7 - 3, 3 + v / 64 % 7 - 3);
             y.tick(1);
         }
-        int lost = y.count(6) + y.count(8);
-        y.again(0);
-        return lost;
+        return y.count(6) + y.count(8);
     }
 
     private static void keep() {

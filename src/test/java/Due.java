@@ -1,14 +1,20 @@
 /** What the tests share: it counts wrong answers and makes crafts. */
 final class Due {
     private static int wrong = 0;
+    private static String about = "";
 
     private Due() {
+    }
+
+    /** What the next answers are about; it stands before each one that is not due. */
+    static void about(String what) {
+        about = what.isEmpty() ? "" : what + ": ";
     }
 
     static void same(String call, long got, long due) {
         if (got != due) {
             wrong++;
-            System.out.println(call + " answered " + got + ", due is " + due);
+            System.out.println(about + call + " answered " + got + ", due is " + due);
         }
     }
 
@@ -19,7 +25,7 @@ final class Due {
     static void isTrue(String what, boolean holds) {
         if (!holds) {
             wrong++;
-            System.out.println(what);
+            System.out.println(about + what);
         }
     }
 

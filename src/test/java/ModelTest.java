@@ -2,8 +2,11 @@ import java.util.Random;
 
 /** Long runs of drawn calls, each answer and the whole visible state compared with the model's. */
 public final class ModelTest {
-    private static final int RUNS = 400;
-    private static final int CALLS = 170;
+    private static final int RUNS = 2000;
+    /** What an object answers after its 512th call is free: so many calls are made before the last look at all. */
+    private static final int CALLS = 512 - 64;
+    /** Calls between two looks at all, which cost calls too. */
+    private static final int BETWEEN = 24;
     private static final String[] NAMES = {"tick", "kill", "mend", "free", "set", "want", "undo", "plan", "next",
         "ahead", "later", "spun", "dumps", "worst", "judge", "see", "unsee", "which", "share", "lost", "seed", "drawn",
         "keep", "again", "count", "wheel", "told", "momentum", "write", "wipe", "fault", "craft"};
@@ -12,6 +15,7 @@ public final class ModelTest {
     private final SpinWheels x = new SpinWheels();
     private final Model m = new Model();
     private final StringBuilder told = new StringBuilder();
+    private int asked;
 
     private ModelTest(long seed) {
         random = new Random(seed);
@@ -29,17 +33,21 @@ public final class ModelTest {
             type(text());
             same("craft", x.craft(), m.craft());
         }
-        for (int i = 0; i < CALLS; i++) {
+        // one that types a new text makes up to 134 calls
+        for (int i = 1; asked + 134 < CALLS; i++) {
             String name = NAMES[random.nextInt(NAMES.length)];
             if (random.nextInt(4) == 0) {
                 name = random.nextInt(3) == 0 ? "want" : "tick";
             }
             told.append(name);
             call(name);
-            if (!sameState()) {
+            if (i % BETWEEN == 0 && asked + 64 < CALLS && !sameState()) {
                 System.out.println("run " + run + ": " + told);
                 return;
             }
+        }
+        if (!sameState()) {
+            System.out.println("run " + run + ": " + told);
         }
     }
 
@@ -175,6 +183,7 @@ public final class ModelTest {
     }
 
     private void same(String name, long got, long due) {
+        asked++;
         told.append(" = ").append(due).append("; ");
         if (got != due) {
             System.out.println(told);
@@ -184,6 +193,7 @@ public final class ModelTest {
 
     private boolean sameState() {
         boolean good = true;
+        asked += 63;
         for (int i = 0; i < 16; i++) {
             good &= x.count(i) == m.count(i);
         }
