@@ -6,6 +6,8 @@ import java.lang.reflect.Method;
 import java.lang.reflect.Modifier;
 import java.nio.file.Files;
 import java.nio.file.Path;
+import java.util.ArrayList;
+import java.util.List;
 import java.util.Set;
 import java.util.TreeSet;
 import java.util.regex.Matcher;
@@ -23,12 +25,15 @@ public final class FaceTest {
     /** The document names no exception, so there is nothing to throw or to catch. */
     private static final String[] BARRED = {"\\bimport\\b", "\\bpackage\\b", "\\bcatch\\b", "\\bthrow\\b", "\\bfinally\\b",
         "\\bFloat\\b", "\\bDouble\\b", "->", "::", "\\bsynchronized\\b", "\\bassert\\b", "\\bhashCode\\b",
-        "[^\\x00-\\x7f]"};
+        "[^\\x00-\\x7f]", "\"\\s*\\+|\\+\\s*\""};
+    private static final Path CLASS = Path.of("src/main/java/SpinWheels.java");
 
     public static void main(String[] args) throws IOException {
         members();
         names();
+        statics();
         text();
+        lengths();
         Due.end("FaceTest");
     }
 
@@ -76,7 +81,6 @@ public final class FaceTest {
         }
         for (Class<?> c : SpinWheels.class.getDeclaredClasses()) {
             Due.isTrue("a class inside that is not static: " + c, Modifier.isStatic(c.getModifiers()));
-            Due.isTrue("too many fields: " + c, c.getDeclaredFields().length <= 20);
             for (Method m : c.getDeclaredMethods()) {
                 Due.isTrue("a public name: " + m, !open.contains(m.getName()));
             }
@@ -87,8 +91,42 @@ public final class FaceTest {
         }
     }
 
+    private static void statics() {
+        Set<Class<?>> kinds = Set.of(int.class, long.class, boolean.class, char.class, String.class, int[].class,
+            long[].class, char[].class, byte[].class);
+        List<Class<?>> all = new ArrayList<>(List.of(SpinWheels.class.getDeclaredClasses()));
+        all.add(SpinWheels.class);
+        Due.isTrue("too many classes: " + all, all.size() <= 12);
+        for (Class<?> c : all) {
+            int own = 0;
+            for (Field f : c.getDeclaredFields()) {
+                boolean constant = Modifier.isStatic(f.getModifiers());
+                own += constant ? 0 : 1;
+                Due.isTrue("a static field that is no constant: " + f, !constant || kinds.contains(f.getType())
+                    && Modifier.isFinal(f.getModifiers()));
+            }
+            Due.isTrue("too many fields: " + c, own <= 20);
+        }
+    }
+
+    /** From the line that begins a method to the one that ends it; both are indented alike. */
+    private static void lengths() throws IOException {
+        Pattern begins = Pattern.compile("( {4}| {8})(public|private) [^=;]*\\) \\{");
+        List<String> lines = Files.readAllLines(CLASS);
+        int methods = 0;
+        for (int i = 0; i < lines.size(); i++) {
+            Matcher m = begins.matcher(lines.get(i));
+            if (m.matches()) {
+                int length = lines.subList(i, lines.size()).indexOf(m.group(1) + "}") + 1;
+                Due.isTrue("too long: " + lines.get(i).trim(), length > 0 && length <= 60);
+                methods++;
+            }
+        }
+        Due.isTrue("the methods are not found", methods > FACE.length);
+    }
+
     private static void text() throws IOException {
-        String text = Files.readString(Path.of("src/main/java/SpinWheels.java"));
+        String text = Files.readString(CLASS);
         String code = text.replaceAll("(?s)/\\*.*?\\*/", "").replaceAll("//[^\n]*", "");
         for (String word : BARRED) {
             Due.isTrue("barred: " + word, !Pattern.compile(word).matcher(code).find());
